@@ -14,6 +14,7 @@ public final class Promise03MessageTest {
         shortening();
         shorteningUnderWay();
         restrictionsHaveRoom();
+        othersStay();
         restrictionsAreReplaced();
         packetsAreReplaced();
         limitsAndPlaces();
@@ -94,6 +95,12 @@ public final class Promise03MessageTest {
             fault("ID " + id + " alone", known ? 2 : 4, fresh(), Telegram.of(24, 1).put(id, 8));
         }
         fault("an ID again, before its SIZE", 7, fresh(), Telegram.of(24, 1).ended(1).put(66, 8));
+        int[] ids = {5, 15, 21, 27, 65, 66};
+        for (int id : ids) {
+            Telegram telegram = Telegram.of(3, 1).marks().authority(9, 0, 0).grades().profile(0, 1)
+                    .restriction(1, 1, 1, 1).ended(1);
+            fault("ID " + id + " behind all of them", 7, fresh(), telegram.put(id, 8).put(0, 13));
+        }
         fault("an ID again, with another between", 7, fresh(), Telegram.of(24, 1).ended(1).grades().ended(2));
     }
 
@@ -234,6 +241,7 @@ public final class Promise03MessageTest {
         fault("a seventh, the end of one that is not there", 12, guard,
                 Telegram.of(24, 9).ended(7).restriction(6, 100, 5, 1));
         fault("a seventh, its own end", 12, guard, Telegram.of(24, 9).ended(6).restriction(6, 100, 5, 1));
+        taken("the first of the six", guard, Telegram.of(24, 8).restriction(0, 0, 5, 10));
         taken("one of the six", guard, Telegram.of(24, 9).restriction(3, 100, 5, 1));
         CHECK.due("it holds at its new place", 5, guard.limit(1000));
         CHECK.due("and not at the old one", 600, guard.limit(300));
@@ -244,6 +252,24 @@ public final class Promise03MessageTest {
         taken("the end of one", guard, Telegram.of(24, 11).ended(1));
         taken("room for one more", guard, Telegram.of(24, 12).restriction(8, 300, 5, 3));
         fault("and no more", 12, guard, Telegram.of(24, 13).restriction(9, 300, 5, 3));
+    }
+
+    private static void othersStay() {
+        for (int ended = 0; ended < 6; ended++) {
+            TrainGuard guard = withSixRestrictions();
+            taken("the end of one", guard, Telegram.of(24, 9).ended(ended));
+            for (int i = 0; i < 6; i++) {
+                int want = i == ended ? 600 : 50 + 5 * i;
+                CHECK.due(ended + " ended, before " + i, 600, guard.limit(100 * i - 1));
+                CHECK.due(ended + " ended, first place of " + i, want, guard.limit(100 * i));
+                CHECK.due(ended + " ended, last place of " + i, want, guard.limit(100 * i + 49));
+                CHECK.due(ended + " ended, behind " + i, 600, guard.limit(100 * i + 50));
+            }
+            for (int i = 0; i < 6; i++) {
+                taken("the end of another", guard, Telegram.of(24, 10 + i).ended(i));
+                CHECK.due("it is no more", 600, guard.limit(100 * i));
+            }
+        }
     }
 
     private static void restrictionsAreReplaced() {

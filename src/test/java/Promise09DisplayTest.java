@@ -16,6 +16,7 @@ public final class Promise09DisplayTest {
         restrictionsAsTargets();
         falls();
         fallsForTheEmergencyCurve();
+        mostTargets();
         allowedSpeeds();
         CHECK.end();
     }
@@ -194,6 +195,28 @@ public final class Promise09DisplayTest {
         CHECK.due("until its end", free, guard.display(0));
     }
 
+    /** Seven steps and six restrictions lie ahead, of which one alone is slow; both ends count behind them. */
+    private static void mostTargets() {
+        for (int slow = 0; slow <= 13; slow++) {
+            TrainGuard guard = new TrainGuard(12, 6, 0);
+            for (int i = 0; i < 6; i++) {
+                Telegram.of(24, i).restriction(i, 100, 1, slow == 7 + i ? 20 : 127).to(guard);
+            }
+            int[] steps = new int[14];
+            for (int i = 0; i < 7; i++) {
+                steps[2 * i] = 100 + i;
+                steps[2 * i + 1] = slow == i ? 20 : 127;
+            }
+            Rides.started(guard, Telegram.of(3, 9).authority(32767, 0, 0).profile(steps));
+            int want = slow == 13 ? 594 : withStep(slow < 7 ? 100 + slow : 100, 20).display(0);
+            CHECK.due("the slow one is " + slow, want, guard.display(0));
+            Telegram.of(3, 10).authority(90, 0, 0).to(guard);
+            CHECK.due("END before them", Rides.full(12, 6, 0, 90, 0).display(0), guard.display(0));
+            Telegram.of(3, 11).authority(0, 0, 0).to(guard);
+            CHECK.due("the SUPERVISED place behind the front", 4, guard.display(1));
+        }
+    }
+
     private static int allowedWith(int... grades) {
         TrainGuard guard = Rides.started(new TrainGuard(20, 10, 30),
                 Telegram.of(3, 0).authority(100, 0, 0).profile(0, 127).grades(grades));
@@ -247,6 +270,9 @@ public final class Promise09DisplayTest {
         CHECK.due("602 + 12 + 378 to 1000", 86, Rides.full(20, 10, 0, 100, 0).display(0));
         CHECK.due("no more than MAX", 600, Rides.full(40, 40, 0, 32767, 0).display(0));
         CHECK.due("no end", 0, Rides.full(20, 10, 0, 0, 0).display(0));
+        TrainGuard close = Rides.full(4, 4, 0, 3, 0);
+        Rides.creep(close, 1);
+        CHECK.due("7 + 12 + 3 of 27, but 14 + 12 + 4", 1, close.display(0));
         TrainGuard guard = Rides.full(20, 10, 0, 100, 0);
         String before = Check.picture(guard);
         for (int what = -1; what <= 4; what++) {
