@@ -37,6 +37,7 @@ public final class TrainGuard {
     private static final int MOST_RESTRICTIONS = 6;
     private static final int MOST_NOTES = 16;
     private static final int MOST_PULSES = 500;
+    private static final int LAST_PLACE = 2147483647;
     private static final int STAFF_CEILING = 80;
     private static final int ON_SIGHT_CEILING = 60;
     private static final int STAFF_WAY = 3000;
@@ -208,8 +209,8 @@ public final class TrainGuard {
         }
         int steps = (w - u + b - 1) / b;
         int before = steps - 1;
-        int last = Math.max(w - steps * b, 0);
-        return before * w - b * (before * steps / 2) + last;
+        int last = w - steps * b;
+        return before * w - b * (before * steps / 2) + (last > 0 ? last : 0);
     }
 
     private boolean isGuided() {
@@ -297,24 +298,16 @@ public final class TrainGuard {
         if (modeNow == FAILED || modeNow == TRIP && received.kind != KIND_STOP) {
             return 9;
         }
-        if (received.kind == KIND_SHORTEN) {
-            return faultOfShortening();
-        }
-        if (received.came[Message.RESTRICTION]
-                && !track.restrictions.hasRoom(received.number, received.endedNumber())) {
-            return 12;
-        }
-        return 0;
-    }
-
-    private int faultOfShortening() {
-        if (!track.hasAuthority) {
+        if (received.kind == KIND_SHORTEN && !track.hasAuthority) {
             return 10;
         }
-        if (received.end > track.end) {
+        if (received.kind == KIND_SHORTEN && (received.end > track.end
+                || isGuided() && gradeWithEnd(received.end) >= SERVICE_GRADE)) {
             return 11;
         }
-        return isGuided() && gradeWithEnd(received.end) >= SERVICE_GRADE ? 11 : 0;
+        boolean hasRoom = !received.came[Message.RESTRICTION]
+                || track.restrictions.hasRoom(received.number, received.endedNumber());
+        return hasRoom ? 0 : 12;
     }
 
     private void obeyReceived() {
@@ -362,24 +355,19 @@ public final class TrainGuard {
     /** END comes first and the SUPERVISED place last, as the curves want it. */
     private void lookAhead(int end) {
         curves.begin(ceilingNow(), front.high);
-        if (!isGuided()) {
-            return;
+        if (isGuided()) {
+            addTarget(end, 0);
+            addTargetsOf(track.profile);
+            addTargetsOf(track.restrictions.spans);
+            addTarget(end + track.overlap, 0);
         }
-        addTarget(end, 0);
-        StepRow profile = track.profile;
-        for (int i = 0; i < profile.count; i++) {
-            addTargetAhead(profile.places[i], profile.values[i]);
-        }
-        Restrictions restrictions = track.restrictions;
-        for (int i = 0; i < restrictions.count; i++) {
-            addTargetAhead(restrictions.places[i], restrictions.limits[i]);
-        }
-        addTarget(end + track.overlap, 0);
     }
 
-    private void addTargetAhead(int place, int speed) {
-        if (place > front.high) {
-            addTarget(place, speed);
+    private void addTargetsOf(SpanRow spans) {
+        for (int i = 0; i < spans.count; i++) {
+            if (spans.firsts[i] > front.high) {
+                addTarget(spans.firsts[i], spans.values[i]);
+            }
         }
     }
 
@@ -406,9 +394,10 @@ public final class TrainGuard {
         }
     }
 
-    /** Values that hold from a place to the next one: the limits of the profile, the falls of the grades. */
-    private static final class StepRow {
-        private final int[] places = new int[MOST_ENTRIES];
+    /** Values that hold from a first place to a last one: limits and falls. */
+    private static final class SpanRow {
+        private final int[] firsts = new int[MOST_ENTRIES];
+        private final int[] lasts = new int[MOST_ENTRIES];
         private final int[] values = new int[MOST_ENTRIES];
         private int count;
 
@@ -420,94 +409,91 @@ public final class TrainGuard {
             count = 0;
         }
 
-        void add(int place, int value) {
+        void add(int first, int last, int value) {
             if (count < MOST_ENTRIES) {
-                places[count] = place;
+                firsts[count] = first;
+                lasts[count] = last;
                 values[count] = value;
                 count++;
             }
         }
 
-        void copyFrom(StepRow other) {
+        /** Steps come by rising places, so each of them ends the one before it. */
+        void addStep(int place, int value) {
+            if (count > 0) {
+                lasts[count - 1] = place - 1;
+            }
+            add(place, LAST_PLACE, value);
+        }
+
+        void copyFrom(SpanRow other) {
             clear();
             for (int i = 0; i < other.count; i++) {
-                add(other.places[i], other.values[i]);
+                add(other.firsts[i], other.lasts[i], other.values[i]);
+            }
+        }
+
+        /** The last one fills the gap: nothing that is answered hangs on the order of restrictions. */
+        void fillFromLast(int i) {
+            if (i >= 0 && i < count) {
+                count--;
+                firsts[i] = firsts[count];
+                lasts[i] = lasts[count];
+                values[i] = values[count];
             }
         }
 
         int least(int from, int to) {
             int least = MAX;
             for (int i = 0; i < count; i++) {
-                if (holdsWithin(i, from, to)) {
-                    least = Math.min(least, values[i]);
+                if (firsts[i] <= to && lasts[i] >= from && values[i] < least) {
+                    least = values[i];
                 }
             }
             return least;
         }
 
+        /** A target far behind the train can make the stretch empty. */
         int greatest(int from, int to) {
+            if (from > to) {
+                return 0;
+            }
             int greatest = 0;
             for (int i = 0; i < count; i++) {
-                if (holdsWithin(i, from, to)) {
-                    greatest = Math.max(greatest, values[i]);
+                if (firsts[i] <= to && lasts[i] >= from && values[i] > greatest) {
+                    greatest = values[i];
                 }
             }
             return greatest;
-        }
-
-        private boolean holdsWithin(int i, int from, int to) {
-            boolean isLast = i + 1 >= count;
-            return from <= to && places[i] <= to && (isLast || places[i + 1] > from);
         }
     }
 
     private static final class Restrictions {
         private final int[] numbers = new int[MOST_RESTRICTIONS];
-        private final int[] places = new int[MOST_RESTRICTIONS];
-        private final int[] ends = new int[MOST_RESTRICTIONS];
-        private final int[] limits = new int[MOST_RESTRICTIONS];
-        private int count;
+        private final SpanRow spans = new SpanRow();
 
         boolean hasRoom(int number, int endedNumber) {
-            int others = indexOf(endedNumber) < 0 ? count : count - 1;
-            return others < MOST_RESTRICTIONS || indexOf(number) >= 0;
+            return spans.count < MOST_RESTRICTIONS || indexOf(number) >= 0 || indexOf(endedNumber) >= 0;
         }
 
-        /** The last one fills the gap: nothing that is answered hangs on their order. */
         void remove(int number) {
             int i = indexOf(number);
             if (i >= 0) {
-                count--;
-                numbers[i] = numbers[count];
-                places[i] = places[count];
-                ends[i] = ends[count];
-                limits[i] = limits[count];
+                spans.fillFromLast(i);
+                numbers[i] = numbers[spans.count];
             }
         }
 
         void put(int number, int place, int reach, int speed) {
             remove(number);
-            if (count < MOST_RESTRICTIONS) {
-                numbers[count] = number;
-                places[count] = place;
-                ends[count] = place + reach;
-                limits[count] = speed;
-                count++;
+            if (spans.count < MOST_RESTRICTIONS) {
+                numbers[spans.count] = number;
+                spans.add(place, place + reach - 1, speed);
             }
-        }
-
-        int least(int from, int to) {
-            int least = MAX;
-            for (int i = 0; i < count; i++) {
-                if (places[i] <= to && ends[i] > from) {
-                    least = Math.min(least, limits[i]);
-                }
-            }
-            return least;
         }
 
         private int indexOf(int number) {
-            for (int i = 0; i < count; i++) {
+            for (int i = 0; i < MOST_RESTRICTIONS && i < spans.count; i++) {
                 if (numbers[i] == number) {
                     return i;
                 }
@@ -598,8 +584,8 @@ public final class TrainGuard {
 
     /** What the messages have told of the way ahead. */
     private static final class Track {
-        private final StepRow profile = new StepRow();
-        private final StepRow grades = new StepRow();
+        private final SpanRow profile = new SpanRow();
+        private final SpanRow grades = new SpanRow();
         private final Restrictions restrictions = new Restrictions();
         private final MarkRow marks = new MarkRow();
         private boolean hasAuthority;
@@ -615,11 +601,17 @@ public final class TrainGuard {
         }
 
         int leastLimit(int from, int to) {
-            return Math.min(profile.least(from, to), restrictions.least(from, to));
+            return Math.min(profile.least(from, to), restrictions.spans.least(from, to));
         }
 
+        /** The ended restriction goes first, so that its room is free for the new one. */
         void put(Message m, int low) {
-            putRestrictions(m);
+            if (m.came[Message.ENDED]) {
+                restrictions.remove(m.ended);
+            }
+            if (m.came[Message.RESTRICTION]) {
+                restrictions.put(m.number, m.from, m.reach, m.speed);
+            }
             if (m.came[Message.AUTHORITY]) {
                 hasAuthority = true;
                 end = m.end;
@@ -635,16 +627,6 @@ public final class TrainGuard {
             if (m.came[Message.MARKS]) {
                 marks.copyFrom(m.marks);
                 marks.passBehind(low);
-            }
-        }
-
-        /** The ended one goes first, so that its room is free for the new one. */
-        private void putRestrictions(Message m) {
-            if (m.came[Message.ENDED]) {
-                restrictions.remove(m.ended);
-            }
-            if (m.came[Message.RESTRICTION]) {
-                restrictions.put(m.number, m.from, m.reach, m.speed);
             }
         }
     }
@@ -692,7 +674,9 @@ public final class TrainGuard {
 
         /** 0 once there is a fault: the message is dropped then, whatever is read of it. */
         int take(int size) {
-            need(left() >= size, 2);
+            if (fault == 0 && size > count - position) {
+                fault = 2;
+            }
             if (fault != 0) {
                 return 0;
             }
@@ -716,10 +700,10 @@ public final class TrainGuard {
         private static final int ENDED = 5;
         private static final int HEAD_OF_PACKET = 21;
 
-        private final boolean[] came = new boolean[6];
+        private final boolean[] came = new boolean[IDS.length];
         private final MarkRow marks = new MarkRow();
-        private final StepRow grades = new StepRow();
-        private final StepRow profile = new StepRow();
+        private final SpanRow grades = new SpanRow();
+        private final SpanRow profile = new SpanRow();
         private int kind;
         private int time;
         private int end;
@@ -745,20 +729,16 @@ public final class TrainGuard {
             in.need(in.take(10) == in.count, 2);
             time = in.take(16);
             in.need(time > latestTime, 3);
-            if (kind == KIND_AUTHORITY || kind == KIND_TRACK) {
-                readPackets(in);
-            } else if (kind == KIND_SHORTEN) {
+            if (kind == KIND_SHORTEN) {
                 end = takePlace(in);
+            }
+            boolean hasPackets = kind == KIND_AUTHORITY || kind == KIND_TRACK;
+            // Each packet that is sound takes bits away, so there are never more of them than bits.
+            for (int i = 0; i < MOST_BITS && hasPackets && in.isSound() && in.left() > 0; i++) {
+                readPacket(in);
             }
             in.need(in.left() == 0, 2);
             return in.fault;
-        }
-
-        /** A packet without a fault takes bits away, so there are never more packets than bits. */
-        private void readPackets(BitRow in) {
-            for (int i = 0; i < MOST_BITS && in.isSound() && in.left() > 0; i++) {
-                readPacket(in);
-            }
         }
 
         private void readPacket(BitRow in) {
@@ -793,10 +773,10 @@ public final class TrainGuard {
                     readAuthority(in);
                     break;
                 case GRADES:
-                    readGrades(in);
+                    readSteps(in, grades, false);
                     break;
                 case PROFILE:
-                    readProfile(in);
+                    readSteps(in, profile, true);
                     break;
                 case RESTRICTION:
                     readRestriction(in);
@@ -826,24 +806,14 @@ public final class TrainGuard {
             endMode = code == 0 ? FULL : ON_SIGHT;
         }
 
-        private void readGrades(BitRow in) {
-            grades.clear();
+        private void readSteps(BitRow in, SpanRow steps, boolean areLimits) {
+            steps.clear();
             int n = in.take(3);
+            in.need(n != 0 || !areLimits, 6);
             int before = NONE;
             for (int i = 0; i < n && in.isSound(); i++) {
                 before = takePlaceBehind(in, before);
-                grades.add(before, in.take(6));
-            }
-        }
-
-        private void readProfile(BitRow in) {
-            profile.clear();
-            int n = in.take(3);
-            in.need(n != 0, 6);
-            int before = NONE;
-            for (int i = 0; i < n && in.isSound(); i++) {
-                before = takePlaceBehind(in, before);
-                profile.add(before, takeLimit(in));
+                steps.addStep(before, areLimits ? takeLimit(in) : in.take(6));
             }
         }
 
@@ -860,9 +830,9 @@ public final class TrainGuard {
         }
 
         private static int takePlaceBehind(BitRow in, int before) {
-            int next = takePlace(in);
-            in.need(next > before, 6);
-            return next;
+            int place = 10 * in.take(15);
+            in.need(place > before, 6);
+            return place;
         }
 
         private static int takeLimit(BitRow in) {
@@ -958,8 +928,8 @@ public final class TrainGuard {
                 return false;
             }
             int growing = growth * v + growth * (growth + 1);
-            int b = Math.max(deceleration - falls[i], 1);
-            return high + growing + more * v + brakingWay(greatest, speeds[i], b) > places[i];
+            int b = deceleration - falls[i];
+            return high + growing + more * v + brakingWay(greatest, speeds[i], b > 1 ? b : 1) > places[i];
         }
     }
 
@@ -996,7 +966,9 @@ public final class TrainGuard {
         void add(int note) {
             row[next] = note;
             next = (next + 1) % MOST_NOTES;
-            count = Math.min(count + 1, MOST_NOTES);
+            if (count < MOST_NOTES) {
+                count++;
+            }
         }
 
         int get(int k) {
