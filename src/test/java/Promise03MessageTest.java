@@ -256,6 +256,10 @@ public final class Promise03MessageTest {
 
     private static void othersStay() {
         for (int ended = 0; ended < 6; ended++) {
+            TrainGuard full = withSixRestrictions();
+            taken("a seventh in its stead", full, Telegram.of(24, 9).ended(ended).restriction(6, 100, 5, 1));
+            CHECK.due("the seventh", 5, full.limit(1000));
+            CHECK.due("the ended one", 600, full.limit(100 * ended));
             TrainGuard guard = withSixRestrictions();
             taken("the end of one", guard, Telegram.of(24, 9).ended(ended));
             for (int i = 0; i < 6; i++) {

@@ -49,7 +49,8 @@ public final class Promise06DriverTest {
     private static void whereEachIsHeard() {
         for (int mode = 0; mode <= 6; mode++) {
             for (int deed = 0; deed <= 2; deed++) {
-                boolean heard = deed == 0 && (mode == 0 || mode == 5) || deed == 1 && mode == 3 || deed == 2 && mode == 4;
+                boolean heard = deed == 0 && (mode == 0 || mode == 5)
+                        || deed == 1 && mode == 3 || deed == 2 && mode == 4;
                 if (heard) {
                     CHECK.due("mode " + mode + ", driver(" + deed + ")", true, inMode(mode).driver(deed));
                 } else {
