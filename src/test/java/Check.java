@@ -1,6 +1,9 @@
 /** Counts the answers that are not the ones that are due, and tells them. */
 final class Check {
     private final String name;
+    private String words = "";
+    private int sentences;
+    private int seenBefore;
     private int seen;
     private int wrong;
 
@@ -8,11 +11,27 @@ final class Check {
         this.name = name;
     }
 
+    /** The words of the document that the answers from here on are about; they are told with each wrong one. */
+    void sentence(String quoted) {
+        everySentenceHasAnswers();
+        words = quoted;
+        sentences++;
+        seenBefore = seen;
+    }
+
+    private void everySentenceHasAnswers() {
+        if (sentences > 0 && seen == seenBefore) {
+            wrong++;
+            System.out.println(name + ": nothing was asked about \"" + words + "\"");
+        }
+    }
+
     void due(String what, long want, long got) {
         seen++;
         if (got != want) {
             wrong++;
-            System.out.println(name + ": " + what + " answered " + got + ", due is " + want);
+            String about = words.isEmpty() ? "" : " (\"" + words + "\")";
+            System.out.println(name + ": " + what + " answered " + got + ", due is " + want + about);
         }
     }
 
@@ -27,11 +46,27 @@ final class Check {
         }
     }
 
+    /** The whole record, the oldest note first. */
+    void dueRecord(String what, TrainGuard guard, int... want) {
+        dueNotes(what, guard, want);
+        due(what + ", no more notes", -1, guard.note(want.length));
+    }
+
     /** All that a call which changes nothing must leave as it was. */
     static String picture(TrainGuard guard) {
+        StringBuilder all = new StringBuilder(scene(guard));
+        all.append(' ').append(guard.state(6));
+        for (int i = 0; i < 16; i++) {
+            all.append(' ').append(guard.note(i));
+        }
+        return all.toString();
+    }
+
+    /** All that a message with a fault must leave as it was: everything that is seen but the record and the bits. */
+    static String scene(TrainGuard guard) {
         StringBuilder all = new StringBuilder();
         all.append(guard.mode());
-        for (int i = 0; i < 7; i++) {
+        for (int i = 0; i < 6; i++) {
             all.append(' ').append(guard.state(i));
         }
         for (int i = 0; i < 4; i++) {
@@ -40,14 +75,16 @@ final class Check {
         for (int i = 0; i < 7; i++) {
             all.append(' ').append(guard.marks(i));
         }
-        for (int i = 0; i < 16; i++) {
-            all.append(' ').append(guard.note(i));
+        for (int place = 0; place <= 300; place += 50) {
+            all.append(' ').append(guard.limit(place));
         }
         return all.toString();
     }
 
     void end() {
-        System.out.println(name + ": " + seen + " answers, " + wrong + " wrong");
+        everySentenceHasAnswers();
+        String about = sentences == 0 ? "" : sentences + " sentences, ";
+        System.out.println(name + ": " + about + seen + " answers, " + wrong + " wrong");
         if (wrong != 0 || seen == 0) {
             System.exit(1);
         }

@@ -91,11 +91,7 @@ public final class Promise01NewObjectTest {
     private static void lengthIs(int given, int counts) {
         TrainGuard guard = Rides.started(new TrainGuard(20, 10, given),
                 Telegram.of(3, 0).authority(32767, 0, 0).profile(0, 10, 1, 40));
-        while (guard.state(0) + 500 < counts + 9) {
-            guard.cycle(500);
-        }
-        Rides.creep(guard, counts + 9 - guard.state(0));
-        CHECK.due("LOW", counts + 9, guard.state(0));
+        Rides.lowTo(guard, 1, counts + 9);
         CHECK.due("length " + given + ", the tail at 9", 50, guard.display(3));
         Rides.creep(guard, 1);
         CHECK.due("length " + given + ", the tail at 10", 200, guard.display(3));

@@ -129,7 +129,8 @@ public final class Promise05CycleTest {
 
     private static void endOfStaff() {
         TrainGuard guard = Rides.staff();
-        goTo(guard, 3000);
+        Rides.lowTo(guard, 1, 3000);
+        guard.cycle(0);
         CHECK.due("LOW at the STAFF END", 1, guard.mode());
         Rides.creep(guard, 1);
         CHECK.due("LOW above the STAFF END", 4, guard.mode());
@@ -138,18 +139,11 @@ public final class Promise05CycleTest {
         guard.driver(0);
         int end = guard.state(1) + 3000;
         CHECK.due("STAFF again", 1, guard.mode());
-        goTo(guard, end);
+        Rides.lowTo(guard, 2, end);
+        guard.cycle(0);
         CHECK.due("LOW at the new STAFF END", 1, guard.mode());
         Rides.creep(guard, 1);
         CHECK.due("LOW above the new STAFF END", 4, guard.mode());
-    }
-
-    private static void goTo(TrainGuard guard, int low) {
-        while (guard.state(0) + 500 < low) {
-            guard.cycle(500);
-        }
-        Rides.creep(guard, low - guard.state(0));
-        CHECK.due("LOW", low, guard.state(0));
     }
 
     /** In STAFF the ceiling is 80; pulses of 75, 76, 79, 80, 82, 83 make TOP 80, 81, 84, 86, 88, 89. */

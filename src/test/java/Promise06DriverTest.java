@@ -18,30 +18,11 @@ public final class Promise06DriverTest {
         CHECK.due(what + ": nothing changed", true, before.equals(Check.picture(guard)));
     }
 
-    private static TrainGuard inMode(int mode) {
-        switch (mode) {
-            case 1:
-                return Rides.staff();
-            case 2:
-                return Rides.full(20, 10, 0, 300, 0);
-            case 3:
-                return Rides.onSight(300);
-            case 4:
-                return Rides.tripped();
-            case 5:
-                return Rides.postTrip();
-            case 6:
-                return Rides.failed();
-            default:
-                return new TrainGuard(20, 10, 0);
-        }
-    }
-
     private static void wrongDeeds() {
         int[] wrong = {-1, 3, 4, 7, Integer.MIN_VALUE, Integer.MAX_VALUE};
         for (int mode = 0; mode <= 6; mode++) {
             for (int deed : wrong) {
-                refused("mode " + mode, inMode(mode), deed);
+                refused("mode " + mode, Rides.inMode(mode), deed);
             }
         }
     }
@@ -52,21 +33,21 @@ public final class Promise06DriverTest {
                 boolean heard = deed == 0 && (mode == 0 || mode == 5)
                         || deed == 1 && mode == 3 || deed == 2 && mode == 4;
                 if (heard) {
-                    CHECK.due("mode " + mode + ", driver(" + deed + ")", true, inMode(mode).driver(deed));
+                    CHECK.due("mode " + mode + ", driver(" + deed + ")", true, Rides.inMode(mode).driver(deed));
                 } else {
-                    refused("mode " + mode, inMode(mode), deed);
+                    refused("mode " + mode, Rides.inMode(mode), deed);
                 }
             }
         }
     }
 
     private static void onlyAtRest() {
-        TrainGuard standing = inMode(0);
+        TrainGuard standing = Rides.inMode(0);
         standing.cycle(1);
         refused("START on the way", standing, 0);
         standing.cycle(0);
         CHECK.due("START at rest", true, standing.driver(0));
-        TrainGuard tripped = inMode(4);
+        TrainGuard tripped = Rides.inMode(4);
         tripped.cycle(1);
         refused("RELEASE on the way", tripped, 2);
         tripped.cycle(0);
@@ -75,57 +56,57 @@ public final class Promise06DriverTest {
         CHECK.dueNotes("the driver, then the mode", tripped, 20702, 20105);
         tripped.cycle(1);
         refused("START in POST TRIP on the way", tripped, 0);
-        TrainGuard onSight = inMode(3);
+        TrainGuard onSight = Rides.inMode(3);
         onSight.cycle(20);
         CHECK.due("ACKNOWLEDGE on the way", true, onSight.driver(1));
     }
 
     private static void starting() {
-        TrainGuard bare = inMode(0);
+        TrainGuard bare = Rides.inMode(0);
         bare.driver(0);
         CHECK.due("STAFF", 1, bare.mode());
         CHECK.dueNotes("the driver, then the mode", bare, 700, 101);
-        TrainGuard withoutProfile = inMode(0);
+        TrainGuard withoutProfile = Rides.inMode(0);
         Telegram.of(3, 0).authority(300, 0, 0).to(withoutProfile);
         withoutProfile.driver(0);
         CHECK.due("STAFF without a profile", 1, withoutProfile.mode());
-        TrainGuard withoutAuthority = inMode(0);
+        TrainGuard withoutAuthority = Rides.inMode(0);
         Telegram.of(24, 0).profile(0, 20).to(withoutAuthority);
         withoutAuthority.driver(0);
         CHECK.due("STAFF without an authority", 1, withoutAuthority.mode());
-        TrainGuard full = inMode(2);
+        TrainGuard full = Rides.inMode(2);
         CHECK.due("FULL", 2, full.mode());
         CHECK.due("nothing is asked", 0, full.state(4));
         CHECK.dueNotes("the driver, then the mode", full, 303, 700, 102);
-        TrainGuard onSight = inMode(3);
+        TrainGuard onSight = Rides.inMode(3);
         CHECK.due("ON SIGHT", 3, onSight.mode());
         CHECK.due("it is asked", 1, onSight.state(4));
         CHECK.dueNotes("the driver, then the mode", onSight, 303, 700, 103);
     }
 
     private static void startingFromPostTrip() {
-        TrainGuard full = inMode(5);
+        TrainGuard full = Rides.inMode(5);
         Telegram.of(3, 1).authority(300, 0, 0).profile(0, 20).to(full);
         full.driver(0);
         CHECK.due("FULL", 2, full.mode());
-        TrainGuard onSight = inMode(5);
+        TrainGuard onSight = Rides.inMode(5);
         Telegram.of(3, 1).authority(300, 0, 1).profile(0, 20).to(onSight);
         onSight.driver(0);
         CHECK.due("ON SIGHT", 3, onSight.mode());
         CHECK.due("it is asked", 1, onSight.state(4));
-        TrainGuard staff = inMode(5);
+        TrainGuard staff = Rides.inMode(5);
         staff.driver(0);
         CHECK.due("STAFF", 1, staff.mode());
     }
 
     private static void acknowledging() {
-        TrainGuard guard = inMode(3);
+        TrainGuard guard = Rides.inMode(3);
         CHECK.due("ACKNOWLEDGE", true, guard.driver(1));
         CHECK.due("asked no more", 0, guard.state(4));
         CHECK.due("its note", 701, guard.note(0));
         CHECK.due("ON SIGHT stays", 3, guard.mode());
         refused("nothing is asked", guard, 1);
-        TrainGuard failed = inMode(3);
+        TrainGuard failed = Rides.inMode(3);
         failed.cycle(-1);
         CHECK.due("it stays asked in FAILED", 1, failed.state(4));
         CHECK.due("ACKNOWLEDGE in FAILED", true, failed.driver(1));

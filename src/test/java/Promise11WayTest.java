@@ -11,12 +11,14 @@ public final class Promise11WayTest {
         CHECK.due("the longest", 179700, guard.way(600, 0, 1));
         for (int b = 1; b <= 40; b++) {
             for (int w = 0; w <= 600; w += w < 90 ? 1 : 17) {
+                guard = new TrainGuard(20, 10, 0);
                 for (int u = 0; u <= 600; u += u < 90 ? 1 : 17) {
                     CHECK.due("way(" + w + ", " + u + ", " + b + ")",
                             PlainModel.brakingWay(w, u, b), guard.way(w, u, b));
                 }
             }
         }
+        guard = new TrainGuard(20, 10, 0);
         wrongArguments(guard);
         CHECK.due("no note", -1, guard.note(0));
         CHECK.end();

@@ -3,13 +3,13 @@ public final class Promise13NoteTest {
     private static final Check CHECK = new Check("Promise13NoteTest");
 
     public static void main(String[] args) {
-        TrainGuard guard = new TrainGuard(20, 10, 0);
         int[] wrong = {-1, 16, 17, Integer.MIN_VALUE, Integer.MAX_VALUE};
-        int all = 0;
-        for (int i = 0; i < 40; i++) {
-            guard.cycle(0);
-            guard.message();
-            all++;
+        for (int all = 1; all <= 40; all++) {
+            TrainGuard guard = new TrainGuard(20, 10, 0);
+            for (int i = 0; i < all; i++) {
+                guard.cycle(0);
+                guard.message();
+            }
             for (int k = 0; k < 16; k++) {
                 int want = k < all ? 10000 * (all - k) + 402 : -1;
                 CHECK.due("after " + all + ", note(" + k + ")", want, guard.note(k));
