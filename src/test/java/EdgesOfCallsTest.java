@@ -33,7 +33,10 @@ public final class EdgesOfCallsTest {
             int e = emergency < 4 ? 4 : emergency > 40 ? 40 : emergency;
             for (int service : services) {
                 int s = service < 2 ? 2 : service > e ? e : service;
-                CHECK.due("E of " + emergency + ", S of " + service, allowed(e, s), seen(emergency, service));
+                for (int fall = 2; fall <= 37; fall += 35) {
+                    CHECK.due("E of " + emergency + ", S of " + service + ", a fall of " + fall, allowed(e, s, fall),
+                            seen(emergency, service, fall));
+                }
             }
         }
         int[] lengths = {Integer.MIN_VALUE, -1, 0, 1, 3999, 4000, 4001, Integer.MAX_VALUE};
@@ -48,12 +51,12 @@ public final class EdgesOfCallsTest {
         }
     }
 
-    /** END 3000 binds the service curve; a fall at the SUPERVISED place of 4023 alone binds the emergency curve. */
-    private static int allowed(int e, int s) {
+    /** END 3000 binds the service curve; a fall behind it, before the SUPERVISED place of 4023, the emergency curve. */
+    private static int allowed(int e, int s, int fall) {
         int allowed = 0;
         for (int v = 0; v <= 600; v++) {
             int byService = 7 * v + 12 + PlainModel.brakingWay(v + 6, 0, s);
-            int byEmergency = 2 * v + 6 + PlainModel.brakingWay(v + 4, 0, Math.max(1, e - 37));
+            int byEmergency = 2 * v + 6 + PlainModel.brakingWay(v + 4, 0, Math.max(1, e - fall));
             if (byService <= 3000 && byEmergency <= 4023) {
                 allowed = v;
             }
@@ -61,9 +64,9 @@ public final class EdgesOfCallsTest {
         return allowed;
     }
 
-    private static int seen(int emergency, int service) {
+    private static int seen(int emergency, int service, int fall) {
         return Rides.started(new TrainGuard(emergency, service, 0), Telegram.of(3, 0).authority(300, 1023, 0)
-                .profile(0, 127).grades(301, 37)).display(0);
+                .profile(0, 127).grades(301, fall)).display(0);
     }
 
     private static void bitCounts() {
