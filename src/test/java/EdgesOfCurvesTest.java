@@ -44,7 +44,9 @@ public final class EdgesOfCurvesTest {
         CHECK.due("10 by 10: 0", 0, guard.way(10, 0, 10));
         CHECK.due("9 by 10: 0", 0, guard.way(9, 0, 10));
         CHECK.due("1 by 40: 0", 0, guard.way(1, 0, 40));
-        CHECK.due("12 to 5 by 10: 2", 2, guard.way(12, 5, 10));
+        CHECK.due("11 to 5 by 10: 1", 1, guard.way(11, 5, 10));
+        CHECK.due("10 to 5 by 10: 0", 0, guard.way(10, 5, 10));
+        CHECK.due("9 to 5 by 10: 0", 0, guard.way(9, 5, 10));
         CHECK.due("25 by 10: 15 + 5 + 0", 20, guard.way(25, 0, 10));
         CHECK.due("1 by 1: 0", 0, guard.way(1, 0, 1));
         CHECK.due("2 by 1: 1 + 0", 1, guard.way(2, 0, 1));

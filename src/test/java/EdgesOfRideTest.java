@@ -357,6 +357,11 @@ public final class EdgesOfRideTest {
         CHECK.due("mark(0), too far ahead", true, guard.mark(0));
         CHECK.due("its trip", 4, guard.mode());
         CHECK.due("mark(0) after it", false, guard.mark(0));
+        TrainGuard fewer = guided(0, Telegram.of(24, 1).marks(0, 7, 20, 1, 8, 20, 2, 9, 20));
+        CHECK.due("one mark in place of three", 0, Telegram.of(24, 2).marks(0, 7, 20).to(fewer));
+        CHECK.due("mark(8), which was the second", false, fewer.mark(8));
+        CHECK.due("mark(9), which was the third", false, fewer.mark(9));
+        CHECK.due("mark(7)", true, fewer.mark(7));
     }
 
     private static void firstSuchMark() {
